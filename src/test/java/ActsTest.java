@@ -14,6 +14,7 @@ public final class ActsTest {
         thirtyActs();
         fortyVersions();
         images();
+        imagesWhole();
         takingBack();
         Due.finish("ActsTest");
     }
@@ -139,6 +140,64 @@ public final class ActsTest {
         Due.tell(x, "store size 12 law 1 cut 0;");
         x.image(0);
         Due.row("laid over", Due.all(x.back(2), x.count(0), x.back(0), x.count(0), x.count(4), x.count(5)), 0, 3, 0, 12, 0, 0);
+    }
+
+    /** Between an image and going back all is another: each part of it must come back. */
+    private static void imagesWhole() {
+        RerootStore x = Due.told("store size 4 law 1 cut 3;pair 0 1;pair 1 2;pair 2 0;" + FORKED);
+        x.reads(5, 3);
+        x.patches(0, 2, 4);
+        x.snaps(2);
+        x.finds(2, 2);
+        long[] due = all(x);
+        x.image(1);
+        Due.tell(x, "store size 5 law 2 cut 1;pair 3 4;join 0 3 4;join 1 0 1;join 0 1 2;read 1 1;snap 2;join 3 2 4;find 4 4;read 0 2;");
+        x.sets(2, 2, 2);
+        x.joins(2, 2, 3);
+        x.merges(1, 3);
+        x.image(2);
+        x.back(1);
+        Due.row("as it was", all(x), due);
+        Due.tell(x, "");
+        x.back(1);
+        Due.row("as it was, from nothing", all(x), due);
+        Due.row("some of it", Due.all(x.count(1), x.count(2), x.version(7, 0), x.version(7, 1), x.state(7, 2), x.colours(), x.spent(5), x.spent(6), x.spent(7)), 1, 3, 6, 2, 2, 3, 3, 2, 6);
+        x.undo();
+        x.undo();
+        Due.row("taken back there", Due.all(x.count(3), x.ledger(), x.direct(), x.count(6), x.by(1), x.without(5)), 8, 10, 1, 2, 10, 7);
+        x.anew();
+        Due.row("all of them", Due.all(x.count(3), x.ledger(), x.spent(4), x.spent(5)), 6, 5, 1, -2);
+    }
+
+    /** Every answer that tells something of a store, one behind the other. */
+    private static long[] all(RerootStore x) {
+        java.util.List<Long> all = new java.util.ArrayList<>();
+        for (int what = 0; what < 8; what++) {
+            all.add((long) x.count(what));
+        }
+        for (int v = 0; v < x.count(3); v++) {
+            for (int i = 0; i < x.count(0); i++) {
+                all.add((long) x.cell(v, i));
+                all.add((long) x.cost(v, i));
+                all.add((long) x.blame(v, i));
+                all.add((long) x.often(v, i));
+            }
+            for (int what = 0; what < 4; what++) {
+                all.add((long) x.state(v, what));
+                all.add((long) x.version(v, what));
+            }
+        }
+        for (int deed = 0; deed < x.count(5); deed++) {
+            all.add((long) x.spent(deed));
+            all.add((long) x.without(deed));
+        }
+        for (int law = 0; law < 3; law++) {
+            all.add((long) x.by(law));
+            all.add((long) x.searchBy(law, 2));
+            all.add((long) x.forwardBy(law, 3));
+        }
+        all.add((long) x.ledger());
+        return all.stream().mapToLong(n -> n).toArray();
     }
 
     private static void takingBack() {

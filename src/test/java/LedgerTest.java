@@ -8,6 +8,7 @@ public final class LedgerTest {
         otherLaws();
         snappingByOtherLaws();
         leavingOut();
+        longWay();
         none();
         Due.finish("LedgerTest");
     }
@@ -75,6 +76,29 @@ public final class LedgerTest {
         x.merges(1, 1);
         x.patches(0, 0, 1);
         Due.row("acts", Due.all(x.without(5), x.without(6), x.without(7), x.without(8)), 8, -2, -2, -2);
+    }
+
+    /** A way of twenty links, read once: by any lesser cut it would be cut. */
+    private static void longWay() {
+        RerootStore x = Due.told("store size 2 law 2 cut 20;");
+        for (int v = 0; v < 20; v++) {
+            x.sets(v, v % 2, 0);
+        }
+        Due.row("twenty links", Due.all(x.length(0), x.cost(0, 0), x.reads(0, 0), x.spent(20)), 20, 20, 0, 20);
+        Due.row("twenty links", Due.all(x.cutting(20), x.cutting(19), x.by(0), x.by(2), x.cut()), 40, 42, 40, 40, 20);
+        Due.row("the dearest taken back", Due.all(x.dearest(), x.undo(), x.dearest()), 20, 20, 0);
+        x.sets(20, 0, 1);
+        Due.row("one more is cut", Due.all(x.cost(0, 0), x.cost(1, 0), x.reads(0, 1), x.spent(21), x.direct()), 23, 20, 1, 23, 2);
+        RerootStore y = Due.told("store size 2 law 0 cut 0;set 0 0 1;");
+        y.reads(0, 0);
+        y.snaps(1);
+        y.undo();
+        y.undo();
+        Due.row("what was dear is gone", Due.all(y.dearest(), y.anew(), y.dearest()), 0, 0, 0);
+        RerootStore z = Due.told("store size 2 law 0 cut 0;");
+        z.sets(0, 0, 1);
+        z.undo();
+        Due.row("none is left", Due.all(z.dearest(), z.ledger(), z.spent(0)), -1, 0, -2);
     }
 
     private static void none() {

@@ -75,6 +75,10 @@ public final class LinksTest {
         Due.row("behind a snap", Due.all(x.direct(), x.ways(), x.snap(), x.keeps(6), x.room(6)), 2, 1, 2, 7, 7);
         x.snaps(2);
         Due.row("all of them", Due.all(x.direct(), x.ways(), x.snap(), x.busiest(), x.keeps(6), x.room(6)), 3, 0, -1, -1, 6, 4);
+        RerootStore chain = Due.told("store size 2 law 0 cut 0;set 0 0 1;set 1 1 0;");
+        Due.row("the first one is farthest", Due.all(chain.longest(), chain.ways(), chain.busiest()), 2, 3, 1);
+        RerootStore fork = Due.told("store size 2 law 0 cut 0;set 0 0 1;set 0 1 0;");
+        Due.row("the first one lies between", Due.all(fork.longest(), fork.ways(), fork.busiest()), 2, 3, 0);
         // A snapped one hands its row on as any other does.
         RerootStore y = Due.told("store size 3 law 0 cut 0;set 0 0 1;set 1 1 2;snap 0;read 1 0;");
         Due.row("snapped, read", Due.all(y.state(0, 0), y.state(1, 0), y.state(2, 1), y.direct()), 1, 1, 1, 2);

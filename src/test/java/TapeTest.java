@@ -7,6 +7,7 @@ public final class TapeTest {
         feeding();
         ending();
         telling();
+        tellingAnew();
         tokens();
         faultsOfStore();
         faultsOfPairs();
@@ -84,7 +85,25 @@ public final class TapeTest {
         Due.row("no acts, other deeds", Due.all(x.count(0), x.count(3), x.count(4), x.count(5), x.count(6), x.ledger()), 2, 2, 0, 1, 0, 1);
         Due.due("none then", Due.tell(x, ""), 0);
         Due.row("there is none", Due.all(x.count(0), x.count(7), x.ledger(), x.cell(0, 0), x.undo()), 0, 0, -2, -2, -2);
+        Due.row("there is none: counts", Due.all(x.count(1), x.count(2), x.count(3), x.count(4), x.count(5), x.count(6)), 0, 0, 0, 0, 0, 0);
         Due.row("images stay", Due.all(x.back(1), x.count(3), x.count(6), x.count(7)), 0, 3, 1, 5);
+    }
+
+    /** Nothing of a store told earlier may shine through, nor of one that had a fault. */
+    private static void tellingAnew() {
+        RerootStore x = new RerootStore();
+        String full = "store size 3 law 2 cut 9;pair 0 1;pair 1 2;set 0 0 1;read 0 0;snap 1;";
+        for (int i = 0; i < 3; i++) {
+            Due.due("the same again", Due.tell(x, full), 6);
+            Due.row("the same again", Due.all(x.count(4), x.count(5), x.count(6), x.ledger(), x.spent(2)), 2, 3, 0, 6, 4);
+            Due.due("a fault behind all of it", Due.tell(x, full + "?"), -4);
+        }
+        for (int i = 0; i < 3; i++) {
+            Due.tell(x, "");
+            Due.row("nothing of it", Due.all(x.count(1), x.count(2), x.count(3), x.count(4), x.count(5), x.count(6)), 0, 0, 0, 0, 0, 0);
+            Due.tell(x, HEAD);
+            Due.row("none of it", Due.all(x.count(4), x.count(5), x.count(6), x.colours(), x.dearest(), x.ledger()), 0, 0, 0, 1, -1, 0);
+        }
     }
 
     private static void tokens() {
@@ -104,6 +123,9 @@ public final class TapeTest {
         Due.faulty(HEAD + "\u0000", 1, 25);
         Due.faulty(HEAD + "readx 0 0;", 1, 25);
         Due.faulty(HEAD + "rea 0 0;", 1, 25);
+        Due.faulty(HEAD + "lead 0 0;", 1, 25);
+        Due.faulty(HEAD + "reap 0 0;", 1, 25);
+        Due.faulty(HEAD + "hair 0 1;", 1, 25);
     }
 
     private static void faultsOfStore() {

@@ -42,6 +42,8 @@ public final class VersionsTest {
         Due.row("unlike", Due.all(x.unlike(2, 3), x.unlike(3, 2), x.unlike(0, 4), x.unlike(2, 4), x.unlike(0, 1), x.unlike(3, 3)), 2, 2, 2, 0, 1, 0);
         Due.row("unlike, none such", Due.all(x.unlike(5, 0), x.unlike(0, 5), x.unlike(-1, 0), x.unlike(0, -1)), -2, -2, -2, -2);
         Due.row("first", Due.all(x.first(0), x.first(1), x.first(2), x.first(3), x.first(4)), 0, 1, 2, 3, 2);
+        RerootStore same = Due.told("store size 2 law 0 cut 0;set 0 1 1;set 1 0 1;set 2 0 0;");
+        Due.row("first, as 0", Due.all(same.first(1), same.first(2), same.first(3)), 0, 2, 0);
         Due.row("first, none such", Due.all(x.first(5), x.first(-1)), -2, -2);
     }
 
