@@ -12,6 +12,7 @@ public final class ActsTest {
         merging();
         patching();
         thirtyActs();
+        sixtyDeeds();
         fortyVersions();
         images();
         imagesWhole();
@@ -100,6 +101,14 @@ public final class ActsTest {
         Due.row("no more", Due.all(x.reads(0, 0), x.sets(0, 0, 0), x.joins(0, 0, 1), x.finds(0, 0), x.snaps(0), x.merges(0, 0), x.patches(0, 0, 0)), -5, -5, -5, -5, -5, -5, -5);
         Due.row("none such all the same", Due.all(x.reads(2, 0), x.sets(0, 3, 0), x.joins(0, 0, 3), x.finds(0, 3), x.snaps(2), x.merges(0, 2), x.patches(0, 0, 2)), -2, -2, -2, -2, -2, -2, -2);
         Due.row("nothing has happened", Due.all(x.count(6), x.count(3), x.undo(), x.reads(0, 0), x.reads(0, 0)), 30, 2, 29, 0, -5);
+    }
+
+    private static void sixtyDeeds() {
+        RerootStore x = Due.told("store size 2 law 0 cut 0;set 0 0 1;" + "read 0 0;read 1 0;".repeat(14) + "read 0 0;");
+        for (int i = 0; i < 30; i++) {
+            Due.due("act " + i, x.reads((i + 1) % 2, 0), (i + 1) % 2);
+        }
+        Due.row("sixty deeds", Due.all(x.count(5), x.count(6), x.spent(59), x.spent(60), x.ledger(), x.by(1), x.without(59), x.undo(), x.anew(), x.count(5)), 60, 30, 1, -2, 60, 1, 59, 29, 29, 30);
     }
 
     private static void fortyVersions() {

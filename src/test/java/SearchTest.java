@@ -7,6 +7,7 @@ public final class SearchTest {
         triangle();
         cutsInSearch();
         cliques();
+        twelveAhead();
         brokenOff();
         ahead();
         wrongInputs();
@@ -69,6 +70,14 @@ public final class SearchTest {
         Due.row("five, looking ahead", Due.all(five.forward(4, 0), five.hue(4, 4), five.hue(4, 0)), 0, 0, 0);
         RerootStore none = Due.told("store size 12 law 0 cut 2;");
         Due.row("no pairs", Due.all(none.colours(), none.search(1, 0), none.search(1, 1), none.search(1, 2), none.colour(1, 11), none.colour(4, 11)), 1, 1, 12, 12, 1, 1);
+    }
+
+    private static void twelveAhead() {
+        RerootStore x = Due.told("store size 12 law 0 cut 2;");
+        Due.row("twelve ahead", forward(x, 1), 1, 12, 12, 0);
+        Due.row("twelve ahead", Due.all(x.hue(1, 0), x.hue(1, 11), x.hue(4, 11), x.forward(4, 1), x.forward(4, 2)), 1, 1, 1, 12, 12);
+        // Reading by LAW 1 goes along all links but those of cells that have a colour: 11 cells once, 10 twice ..
+        Due.due("twelve ahead by LAW 1", x.forwardBy(1, 1), 12 + 11 * 1 + 10 * 2 + 9 * 3 + 8 * 4 + 7 * 5 + 6 * 6 + 5 * 7 + 4 * 8 + 3 * 9 + 2 * 10 + 1 * 11);
     }
 
     /** Seven cells of no pair ahead of five that four colours are too few for: they are tried in vain. */
