@@ -470,22 +470,29 @@ public final class RerootStore {
 
     // Images, and acts taken back.
 
+    /** Null where there is no such image. */
+    private Story imageAt(int k) {
+        return k >= 0 && k < images.length ? images[k] : null;
+    }
+
     public int image(int k) {
-        if (k < 0 || k >= images.length || !isThere()) {
+        Story kept = imageAt(k);
+        if (kept == null || !isThere()) {
             return ABSENT;
         }
-        images[k].become(now);
+        kept.become(now);
         return 0;
     }
 
     public int back(int k) {
-        if (k < 0 || k >= images.length) {
+        Story kept = imageAt(k);
+        if (kept == null) {
             return ABSENT;
         }
-        if (images[k].shelf.size == 0) {
+        if (kept.shelf.size == 0) {
             return BLANK;
         }
-        now.become(images[k]);
+        now.become(kept);
         return 0;
     }
 
