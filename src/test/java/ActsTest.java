@@ -153,29 +153,36 @@ public final class ActsTest {
 
     /** Between an image and going back all is another: each part of it must come back. */
     private static void imagesWhole() {
-        RerootStore x = Due.told("store size 4 law 1 cut 3;pair 0 1;pair 1 2;pair 2 0;" + FORKED);
-        x.reads(5, 3);
-        x.patches(0, 2, 4);
-        x.snaps(2);
-        x.finds(2, 2);
-        long[] due = all(x);
-        x.image(1);
+        RerootStore x = imaged();
         Due.tell(x, "store size 5 law 2 cut 1;pair 3 4;join 0 3 4;join 1 0 1;join 0 1 2;read 1 1;snap 2;join 3 2 4;find 4 4;read 0 2;");
         x.sets(2, 2, 2);
         x.joins(2, 2, 3);
         x.merges(1, 3);
         x.image(2);
         x.back(1);
+        // Others are asked what is due: an object is promised for 512 calls.
+        long[] due = all(imaged());
         Due.row("as it was", all(x), due);
-        Due.tell(x, "");
-        x.back(1);
-        Due.row("as it was, from nothing", all(x), due);
+        RerootStore y = imaged();
+        Due.tell(y, "");
+        y.back(1);
+        Due.row("as it was, from nothing", all(y), due);
         Due.row("some of it", Due.all(x.count(1), x.count(2), x.version(7, 0), x.version(7, 1), x.state(7, 2), x.colours(), x.spent(5), x.spent(6), x.spent(7)), 1, 3, 6, 2, 2, 3, 3, 2, 6);
         x.undo();
         x.undo();
         Due.row("taken back there", Due.all(x.count(3), x.ledger(), x.direct(), x.count(6), x.by(1), x.without(5)), 8, 10, 1, 2, 10, 7);
         x.anew();
         Due.row("all of them", Due.all(x.count(3), x.ledger(), x.spent(4), x.spent(5)), 6, 5, 1, -2);
+    }
+
+    private static RerootStore imaged() {
+        RerootStore x = Due.told("store size 4 law 1 cut 3;pair 0 1;pair 1 2;pair 2 0;" + FORKED);
+        x.reads(5, 3);
+        x.patches(0, 2, 4);
+        x.snaps(2);
+        x.finds(2, 2);
+        x.image(1);
+        return x;
     }
 
     /** Every answer that tells something of a store, one behind the other. */

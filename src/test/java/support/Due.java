@@ -1,4 +1,5 @@
 import java.nio.charset.StandardCharsets;
+import java.util.function.LongSupplier;
 
 /** Counts answers that are not the due ones, tells each of them, and ends with exit code 1 if there was one. */
 final class Due {
@@ -21,6 +22,13 @@ final class Due {
         due(what + ": how many", got.length, want.length);
         for (int i = 0; i < Math.min(got.length, want.length); i++) {
             due(what + " [" + i + "]", got[i], want[i]);
+        }
+    }
+
+    /** Each of the calls answers so. */
+    static void each(String what, long want, LongSupplier... calls) {
+        for (int i = 0; i < calls.length; i++) {
+            due(what + " [" + i + "]", calls[i].getAsLong(), want);
         }
     }
 
